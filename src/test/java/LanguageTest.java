@@ -1,0 +1,104 @@
+import java.io.IOException;
+import java.lang.reflect.Constructor;
+import java.lang.reflect.Field;
+import java.lang.reflect.Method;
+import java.lang.reflect.Modifier;
+import java.nio.file.Files;
+import java.nio.file.Path;
+import java.util.Arrays;
+import java.util.Set;
+import java.util.TreeSet;
+import java.util.regex.Pattern;
+import java.util.stream.Collectors;
+
+/** The face of the document and no other, and those rules of LANGUAGE.md that can be read off. */
+public final class LanguageTest {
+    private static final Set<String> FACE = new TreeSet<>(Set.of(
+            "int house(int)", "int lift(int,int)", "int line(int,int,int)", "int type(int)", "int clear()",
+            "int read()", "int passes(int)", "int undo()", "int of(int,int)", "int where(int,int)",
+            "int first(int,int,int)", "int often(int,int)", "int own(int,int)", "int ride(int,int,int,int)",
+            "int walk(int,int,int,int)", "int lines()", "int even()", "int note(int,int,int,int)",
+            "int forget()", "int is(int,int)", "int look(int,int)", "int porters(int,int,int,int)",
+            "int days(int,int,int)", "long part(int)", "int image(int)", "int from(int)", "int status(int)",
+            "int count(int)", "long digest()"));
+    private static final String[] FORBIDDEN = {
+        "throw", "throws", "try", "catch", "finally", "synchronized", "assert", "import", "package", "var",
+        "protected", "equals", "hashCode", "Exception", "Random", "Thread"
+    };
+    private static final Check C = new Check();
+
+    public static void main(String[] args) throws IOException {
+        face();
+        for (Class<?> inside : WrongWay.class.getDeclaredClasses()) {
+            inside(inside);
+        }
+        source(Files.readString(Path.of("src/main/java/WrongWay.java")));
+        C.end();
+    }
+
+    private static void face() {
+        C.about("the face");
+        Set<String> methods = new TreeSet<>();
+        Set<String> names = new TreeSet<>();
+        for (Method m : WrongWay.class.getDeclaredMethods()) {
+            if (Modifier.isPublic(m.getModifiers())) {
+                String types = Arrays.stream(m.getParameterTypes()).map(Class::getName)
+                        .collect(Collectors.joining(","));
+                methods.add(m.getReturnType().getName() + " " + m.getName() + "(" + types + ")");
+                names.add(m.getName());
+            }
+        }
+        C.holds("methods are " + FACE + " but were " + methods, methods.equals(FACE));
+        for (Method m : WrongWay.class.getDeclaredMethods()) {
+            int mod = m.getModifiers();
+            C.holds(m + " is public or private", Modifier.isPublic(mod) || Modifier.isPrivate(mod));
+            C.holds(m + " has its own name", Modifier.isPublic(mod) || !names.contains(m.getName()));
+        }
+        Set<String> constants = new TreeSet<>();
+        for (Field f : WrongWay.class.getDeclaredFields()) {
+            int mod = f.getModifiers();
+            C.holds(f + " is final", Modifier.isFinal(mod));
+            C.holds(f + " is public or private", Modifier.isPublic(mod) || Modifier.isPrivate(mod));
+            if (Modifier.isPublic(mod)) {
+                constants.add(f.getName());
+            }
+        }
+        C.holds("constants", constants.equals(Set.of("NONE", "BAD", "NO", "FULL")));
+        C.due("NONE", WrongWay.NONE, -1);
+        C.due("BAD", WrongWay.BAD, -2);
+        C.due("NO", WrongWay.NO, -3);
+        C.due("FULL", WrongWay.FULL, -4);
+        Constructor<?>[] made = WrongWay.class.getDeclaredConstructors();
+        C.due("constructors", made.length, 1);
+        C.due("its parameters", made[0].getParameterCount(), 0);
+        C.holds("it is public", Modifier.isPublic(made[0].getModifiers()));
+        C.holds("the class is final", Modifier.isFinal(WrongWay.class.getModifiers()));
+    }
+
+    private static void inside(Class<?> inside) {
+        C.about(inside.getSimpleName());
+        C.holds("static", Modifier.isStatic(inside.getModifiers()));
+        C.holds("not public", !Modifier.isPublic(inside.getModifiers()));
+        C.holds("some twenty fields", inside.getDeclaredFields().length <= 25);
+        for (Field f : inside.getDeclaredFields()) {
+            C.holds(f + " is no state of all", !Modifier.isStatic(f.getModifiers())
+                    || Modifier.isFinal(f.getModifiers()));
+        }
+        for (Method m : inside.getDeclaredMethods()) {
+            C.holds(m + " takes at most seven", m.getParameterCount() <= 7);
+            C.holds(m + " is no name of the face",
+                    FACE.stream().noneMatch(s -> s.contains(" " + m.getName() + "(")));
+        }
+    }
+
+    private static void source(String text) {
+        C.about("the source");
+        String code = text.replaceAll("(?s)/\\*.*?\\*/", "").replaceAll("//[^\n]*", "");
+        for (String word : FORBIDDEN) {
+            C.holds("no " + word, !Pattern.compile("\\b" + word + "\\b").matcher(code).find());
+        }
+        C.holds("no lambda", !code.contains("->"));
+        C.holds("no method reference", !code.contains("::"));
+        C.holds("plain signs", text.chars().allMatch(ch -> ch == '\n' || ch >= 32 && ch < 127));
+    }
+}
