@@ -172,10 +172,10 @@ public final class WrongWay {
         if (!now.hasFloor(f) || !now.hasFloor(to) || !isMinute(m) || !isWithin(what, 0, 1)) {
             return refuse(BAD);
         }
+        // Walking all the way is always open; floors come from below, so that of like ones the lower stays.
         int best = to;
-        int bestWalk = 0;
-        int bestTime = Integer.MAX_VALUE;
-        // Floors come from below, so that of like ones the lower stays.
+        int bestWalk = WALK_A_FLOOR * Math.abs(to - f);
+        int bestTime = bestWalk;
         for (int floor = 0; floor <= now.top; floor++) {
             int walked = WALK_A_FLOOR * Math.abs(floor - f);
             int ridden = watch.rideTime(floor, to, m + walked, ANY_WAY);
@@ -197,7 +197,7 @@ public final class WrongWay {
 
     public int even() {
         int best = 0;
-        int bestOff = Integer.MAX_VALUE;
+        int bestOff = House.PLATFORM_MINUTES + 1;
         for (int shift = 0; shift <= House.LAST_AT; shift++) {
             int off = Math.abs(2 * now.turnsOfLine0(shift) - House.PLATFORM_MINUTES);
             if (off < bestOff) {
@@ -424,17 +424,6 @@ public final class WrongWay {
                 default: return true;
             }
         }
-
-        static boolean goesUp(int kind, int top, int start, int minute) {
-            int floor = floorIn(kind, top, start, minute);
-            for (int behind = 1; behind < LONGEST_ROUND; behind++) {
-                int next = floorIn(kind, top, start, minute + behind);
-                if (next != floor) {
-                    return next > floor;
-                }
-            }
-            return false;
-        }
     }
 
     /** All that an image keeps: floors, lifts, lines, the minute, what was noted, what may be undone. */
@@ -603,11 +592,22 @@ public final class WrongWay {
         }
 
         int wayOf(int lift, int m) {
-            return Kinds.goesUp(house.kinds[lift], house.top, house.starts[lift], m) ? UP : DOWN;
+            int kind = house.kinds[lift];
+            int start = house.starts[lift];
+            int floor = Kinds.floorIn(kind, house.top, start, m);
+            for (int behind = 1; behind < Kinds.LONGEST_ROUND; behind++) {
+                int next = Kinds.floorIn(kind, house.top, start, m + behind);
+                if (next != floor) {
+                    return next > floor ? UP : DOWN;
+                }
+            }
+            return DOWN;
         }
 
         private boolean isSeen(int lift, int f, int m) {
-            return floorOf(lift, m) == f && Kinds.opens(house.kinds[lift], house.top, f);
+            int kind = house.kinds[lift];
+            return Kinds.opens(kind, house.top, f)
+                    && Kinds.floorIn(kind, house.top, house.starts[lift], m) == f;
         }
 
         /** The least lift that is seen from f in minute m, going that way; or none. */

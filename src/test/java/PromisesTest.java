@@ -236,6 +236,8 @@ public final class PromisesTest {
         fault("house 1;lift 0 0", 16);
         fault("house 1;line 0 1 0 ", 19);
         fault("hous 1;", 0);
+        fault("mouse 1;", 0);
+        fault("housa 1;", 0);
         fault("houses 1;", 0);
         fault(" House 1;", 1);
         fault("houSe 1;", 0);
@@ -253,6 +255,10 @@ public final class PromisesTest {
         fault("house 1;;", 8);
         fault("house 1;house 1;", 8);
         fault("house 1; lif 0 0;", 9);
+        fault("house 1;lifta 0 0;", 8);
+        fault("house 1;liftz 0 0;", 8);
+        fault("house 5;lift lift 0;", 13);
+        fault("house 5;lift ; 0;", 13);
         fault("house 1;lift 6 0;", 13);
         fault("house 1;lift 5 100;", 15);
         fault("house 1;lift 5 001;", 15);
@@ -276,6 +282,15 @@ public final class PromisesTest {
         fault("house 1;" + "9".repeat(142), 8);
         fault("house 1;lift " + "9".repeat(137), 13);
         fault(" ".repeat(150), 150);
+        fault(" ".repeat(145) + "house", 150);
+        fault(" ".repeat(144) + "house1", 150);
+        WrongWay x = new WrongWay();
+        typed(x, "house 11;lift 0 0;");
+        typed(x, "house 1");
+        C.due("bytes that were cleared are gone", x.read(), -17);
+        typed(x, "houses and more");
+        typed(x, "house");
+        C.due("letters that were cleared are gone", x.read(), -15);
     }
 
     private static void fault(String text, int place) {
@@ -506,11 +521,14 @@ public final class PromisesTest {
         C.due("the same floor by the right", x.ride(3, 3, 999, 1), 0);
         C.due("QUICK is never on 3", x.ride(4, 3, 0, 0), WrongWay.NONE);
         C.due("but PLAIN is", x.ride(4, 3, 0, 1), 4);
+        C.due("down first, then up", x.ride(4, 6, 9, 0), 5);
+        C.due("up by the right", x.ride(4, 6, 9, 1), 4);
         WrongWay y = new WrongWay();
         y.lift(3, 0);
         C.due("can not be taken on 4", y.ride(1, 4, 0, 0), WrongWay.NONE);
         C.due("nor from 4", y.ride(4, 1, 0, 0), WrongWay.NONE);
         C.due("from 1 to 5", y.ride(1, 5, 0, 0), 5);
+        C.due("from 1 to 5 without a wait", y.ride(1, 5, 1, 0), 4);
         C.due("from 1 to 5 in minute 2", y.ride(1, 5, 2, 0), 25);
         C.due("no NONE is refused", y.status(0) + y.status(1) + y.status(2), 0);
         int[][] bad = {{12, 0, 0, 0}, {0, 12, 0, 0}, {0, 0, 1000, 0}, {0, 0, 0, 2}};
@@ -580,6 +598,10 @@ public final class PromisesTest {
         C.due("the fraction stays", x.part(0), above);
         x.line(0, 1, 0);
         C.due("no shift helps: the least", x.even(), 0);
+        x.line(0, 30, 14);
+        x.line(1, 30, 0);
+        // Half a round from line 0 is AT 29 alone.
+        C.due("the last shift", x.even(), 29);
     }
 
     private static void noteAndForget() {
@@ -625,6 +647,10 @@ public final class PromisesTest {
         C.due("none", x.is(0, 0), 0);
         C.due("no kind: no look", x.look(0, 0), WrongWay.NONE);
         C.due("no NONE is refused", x.status(0) + x.status(1), 0);
+        // QUICK, RESTS and LATE are below, the others above: no minute ahead of it parts them so well.
+        C.due("the last minute", plain(3, 27).look(0, 0), 30);
+        C.due("the last but one", plain(3, 28).look(0, 0), 29);
+        C.due("behind the last", plain(3, 26).look(0, 0), 1);
         WrongWay y = new WrongWay();
         y.lift(5, 0);
         y.note(0, 2, 2, 1);
@@ -723,6 +749,10 @@ public final class PromisesTest {
         x.line(1, 9, 9);
         x.lift(3, 3);
         x.house(2);
+        x.lift(4, 4);
+        x.note(0, 1, 2, 0);
+        x.passes(3);
+        x.passes(3);
         C.due("from(1)", x.from(1), 1);
         C.due("digest as kept", x.digest(), before);
         C.due("undo() as kept", x.undo(), 10);
