@@ -13,6 +13,7 @@ public final class FirstBoundariesTest {
 
     public static void main(String[] args) {
         nothingIsChanged();
+        theMinuteNowIsNotAsked();
         firstInMinutes0To999();
         firstOfNone();
         firstWhat();
@@ -91,6 +92,38 @@ public final class FirstBoundariesTest {
         C.holds("all stays", Made.allOf(x).equals(Made.allOf(like)));
     }
 
+    private static void theMinuteNowIsNotAsked() {
+        C.about("MINUTES as told, whatever the MINUTE is");
+        WrongWay x = Made.house(11, PLAIN, 4, LATE, 50, ODD, 9);
+        WrongWay later = Made.house(11, PLAIN, 4, LATE, 50, ODD, 9);
+        later.passes(13);
+        C.holds("they are elsewhere", later.of(0, 3) != x.of(0, 3));
+        for (int f = 0; f <= 11; f += 3) {
+            C.due("where", later.where(0, f), x.where(0, f));
+            for (int what = 0; what <= 2; what++) {
+                C.due("first", later.first(f, 7, what), x.first(f, 7, what));
+            }
+            for (int what = 0; what <= 1; what++) {
+                C.due("ride", later.ride(f, 5, 7, what), x.ride(f, 5, 7, what));
+                C.due("walk", later.walk(f, 5, 7, what), x.walk(f, 5, 7, what));
+                C.due("often", later.often(f, what), x.often(f, what));
+                C.due("above", later.part(0), x.part(0));
+                C.due("own", later.own(f, what), x.own(f, what));
+                C.due("above", later.part(0), x.part(0));
+            }
+            C.due("porters", later.porters(f, 7, 5, 3), x.porters(f, 7, 5, 3));
+            C.due("above", later.part(0), x.part(0));
+            C.due("days", later.days(f, 8, 30), x.days(f, 8, 30));
+            C.due("look", later.look(1, f), x.look(1, f));
+            C.due("note", later.note(2, f, 9, 0), x.note(2, f, 9, 0));
+            C.due("kinds", later.is(2, 0), x.is(2, 0));
+            C.due("starts", later.is(2, 1), x.is(2, 1));
+        }
+        C.due("lines", later.lines(), x.lines());
+        C.due("above", later.part(0), x.part(0));
+        C.due("even", later.even(), x.even());
+    }
+
     private static void firstInMinutes0To999() {
         C.about("FIRST in MINUTE m (0 .. 999)");
         WrongWay x = Made.house(11, PLAIN, 0);
@@ -126,6 +159,9 @@ public final class FirstBoundariesTest {
         C.due("what 2", x.first(2, 1, 2), 3);
         C.due("what 3", x.first(2, 0, 3), WrongWay.BAD);
         C.due("STATUS", x.status(0), 2);
+        C.due("what 0 of one that goes DOWN", x.first(2, 5, 0), 1);
+        C.due("what 1 of one that goes DOWN", x.first(2, 5, 1), 0);
+        C.due("what 2 of one that goes DOWN", x.first(2, 5, 2), 17);
     }
 
     private static void oftenOverMinutes0To119() {
@@ -361,6 +397,8 @@ public final class FirstBoundariesTest {
         walks(x, 1, 11, 0, 0, 13);
         walks(x, 2, 11, 0, 11, 18);
         walks(x, 2, 10, 0, 10, 16);
+        // Up to the last floor, and down from there.
+        walks(Made.house(11, EXPRESS, 9), 10, 0, 0, 11, 13);
         // Just gone: all the way on foot.
         walks(Made.house(11, EXPRESS, 0), 11, 0, 12, 0, 22);
     }

@@ -6,8 +6,11 @@ import java.lang.reflect.Modifier;
 import java.nio.file.Files;
 import java.nio.file.Path;
 import java.util.Arrays;
+import java.util.Map;
 import java.util.Set;
+import java.util.TreeMap;
 import java.util.TreeSet;
+import java.util.regex.Matcher;
 import java.util.regex.Pattern;
 import java.util.stream.Collectors;
 
@@ -25,6 +28,10 @@ public final class LanguageTest {
         "throw", "throws", "try", "catch", "finally", "synchronized", "assert", "import", "package", "var",
         "protected", "equals", "hashCode", "Exception", "Random", "Thread"
     };
+    private static final Set<String> LIBRARY = Set.of(
+            "Math.min", "Math.max", "Math.abs", "Integer.bitCount", "System.arraycopy");
+    private static final Set<String> MADE = Set.of(
+            "new House", "new Watch", "new Text", "new Fraction", "new int", "new byte", "new boolean");
     private static final Check C = new Check();
 
     public static void main(String[] args) throws IOException {
@@ -32,7 +39,10 @@ public final class LanguageTest {
         for (Class<?> inside : WrongWay.class.getDeclaredClasses()) {
             inside(inside);
         }
-        source(Files.readString(Path.of("src/main/java/WrongWay.java")));
+        String text = Files.readString(Path.of("src/main/java/WrongWay.java"));
+        source(text);
+        library(codeOf(text));
+        methods(codeOf(text));
         C.end();
     }
 
@@ -93,12 +103,59 @@ public final class LanguageTest {
 
     private static void source(String text) {
         C.about("the source");
-        String code = text.replaceAll("(?s)/\\*.*?\\*/", "").replaceAll("//[^\n]*", "");
+        String code = codeOf(text);
         for (String word : FORBIDDEN) {
             C.holds("no " + word, !Pattern.compile("\\b" + word + "\\b").matcher(code).find());
         }
         C.holds("no lambda", !code.contains("->"));
         C.holds("no method reference", !code.contains("::"));
         C.holds("plain signs", text.chars().allMatch(ch -> ch == '\n' || ch >= 32 && ch < 127));
+        C.holds("some twelve classes", code.split("\\bclass\\b").length - 1 <= 12);
+    }
+
+    private static String codeOf(String text) {
+        return text.replaceAll("(?s)/\\*.*?\\*/", "").replaceAll("//[^\n]*", "");
+    }
+
+    private static void library(String code) {
+        C.about("the library");
+        Matcher m = Pattern.compile("\\b(Math|Integer|Long|System|Arrays|List|String|Character)\\.(\\w+)")
+                .matcher(code);
+        while (m.find()) {
+            C.holds(m.group() + " is one of those told", LIBRARY.contains(m.group()));
+        }
+        // What is made is made in constructors and fields: no call makes any.
+        Matcher made = Pattern.compile("\\bnew \\w+").matcher(code);
+        while (made.find()) {
+            C.holds(made.group() + " is one of those made once", MADE.contains(made.group()));
+        }
+    }
+
+    /** Rule 11: methods of some sixty lines; calls at most eight deep, and none that comes back. */
+    private static void methods(String code) {
+        C.about("the methods");
+        Map<String, String> bodies = new TreeMap<>();
+        Matcher m = Pattern.compile("(?ms)^( +)(?:(?:public|private|static) )*[\\w\\[\\]]+ (\\w+)\\([^)]*\\) \\{$"
+                + "(.*?)^\\1\\}$").matcher(code);
+        while (m.find()) {
+            C.holds(m.group(2) + " stays short", m.group(3).lines().count() <= 60);
+            bodies.merge(m.group(2), m.group(3), String::concat);
+        }
+        C.holds("all methods were found, " + bodies.size(), bodies.size() > FACE.size());
+        for (String name : bodies.keySet()) {
+            int depth = depth(name, bodies, 0);
+            C.holds(name + " is " + depth + " deep", depth <= 8);
+        }
+    }
+
+    private static int depth(String name, Map<String, String> bodies, int above) {
+        int deepest = 0;
+        Matcher call = Pattern.compile("(?<!new )\\b(\\w+)\\(").matcher(bodies.get(name));
+        while (call.find() && above <= 20) {
+            if (bodies.containsKey(call.group(1))) {
+                deepest = Math.max(deepest, depth(call.group(1), bodies, above + 1));
+            }
+        }
+        return 1 + deepest;
     }
 }

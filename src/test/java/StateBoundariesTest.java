@@ -31,6 +31,7 @@ public final class StateBoundariesTest {
         imageLeavesTextFractionStatus();
         imageKeepsWhatMayBeUndone();
         imageIsAsItWas();
+        imageKeepsEachNumber();
         imageOverAnImage();
         fromNoneKept();
         statusAtFirst();
@@ -440,6 +441,35 @@ public final class StateBoundariesTest {
             C.due("from(0)", x.from(0), 1);
             C.due("digest", x.digest(), before);
         }
+    }
+
+    private static void imageKeepsEachNumber() {
+        C.about("IMAGES keep each number of LIFTS, LINES, NOTED");
+        WrongWay x = Made.house(5, 0, 1, 2, 3);
+        x.line(0, 4, 5);
+        x.line(1, 6, 7);
+        x.note(0, 1, 2, 0);
+        x.note(1, 3, 4, 1);
+        x.image(0);
+        long before = x.digest();
+        // As many of all, but each number another.
+        x.house(4);
+        x.lift(5, 6);
+        x.lift(4, 2);
+        x.line(0, 8, 9);
+        x.line(1, 9, 8);
+        x.note(1, 2, 1, 1);
+        x.note(0, 4, 3, 0);
+        x.image(1);
+        long other = x.digest();
+        for (int i = 0; i < 3; i++) {
+            C.due("from(0)", x.from(0), 1);
+            C.due("digest of 0", x.digest(), before);
+            C.due("from(1)", x.from(1), 1);
+            C.due("digest of 1", x.digest(), other);
+        }
+        C.due("digests", before, hash(2, 5, 0, 2, 0, 0, 0, 1, 2, 3, 4, 5, 6, 7, 0, 1, 2, 0, 1, 3, 4, 1, 0, 1));
+        C.due("digests", other, hash(2, 4, 0, 2, 0, 0, 5, 6, 4, 2, 8, 9, 9, 8, 1, 2, 1, 1, 0, 4, 3, 0, 0, 1));
     }
 
     private static void imageOverAnImage() {
