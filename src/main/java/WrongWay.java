@@ -384,23 +384,26 @@ public final class WrongWay {
         return DONE;
     }
 
-    /**
-     * The kinds, each told by how it departs from PLAIN: how many of PLAIN's places it goes a minute,
-     * how long it rests below, how long it stands above, where its doors open.
-     */
+    /** The kinds: PLAIN's round, and how each of the others departs from it. */
     private static final class Kinds {
         static final int LAST = 5;
         static final int LONGEST_ROUND = 2 * House.HIGHEST + 6;
 
+        private static final int QUICK = 1;
+        private static final int RESTS = 2;
         private static final int ODD = 3;
+        private static final int LATE = 4;
         private static final int EXPRESS = 5;
-        private static final int[] PACE = {1, 2, 1, 1, 1, 1};
-        private static final int[] REST_BELOW = {0, 0, 4, 0, 4, 0};
-        private static final int[] STAND_ABOVE = {0, 0, 0, 0, 2, 0};
+        private static final int REST_BELOW = 4;
+        private static final int STAND_ABOVE = 2;
 
         static int round(int kind, int top) {
-            int going = PACE[kind] == 2 ? top : 2 * top;
-            return going + REST_BELOW[kind] + STAND_ABOVE[kind];
+            switch (kind) {
+                case QUICK: return top;
+                case RESTS: return 2 * top + REST_BELOW;
+                case LATE: return 2 * top + REST_BELOW + STAND_ABOVE;
+                default: return 2 * top;
+            }
         }
 
         static int floorIn(int kind, int top, int start, int minute) {
@@ -408,13 +411,15 @@ public final class WrongWay {
             if (round < 1) {
                 return 0;
             }
-            int plainPlace = PACE[kind] * ((minute + start) % round);
-            if (plainPlace > top) {
-                plainPlace = Math.max(top, plainPlace - STAND_ABOVE[kind]);
+            int place = (minute + start) % round;
+            if (kind == QUICK) {
+                place = 2 * place;
+            } else if (kind == LATE && place > top) {
+                place = Math.max(top, place - STAND_ABOVE);
             }
             // Only a kind that rests has places behind PLAIN's last: it is below in them.
-            int down = Math.max(0, 2 * top - plainPlace);
-            return Math.min(plainPlace, down);
+            int down = Math.max(0, 2 * top - place);
+            return Math.min(place, down);
         }
 
         static boolean opens(int kind, int top, int floor) {

@@ -2,7 +2,8 @@ import java.util.Random;
 
 /** Runs of calls drawn by fixed seeds, each answer held against the Model's. */
 public final class ModelTest {
-    private static final int RUNS = 600;
+    private static final int RUNS = 1000;
+    private static final int GROUPS = 32;
     private static final int CALLS = 512;
     private static final int[] FAR = {
         Integer.MIN_VALUE, Integer.MIN_VALUE + 1, -1000000, -1, Integer.MAX_VALUE - 1, Integer.MAX_VALUE
@@ -27,25 +28,38 @@ public final class ModelTest {
         Check c = new Check();
         for (int seed = 0; seed < RUNS && c.wrong() == 0; seed++) {
             c.about("run by seed " + seed);
-            new ModelTest(c, seed).run();
+            new ModelTest(c, seed).run(seed % 2 == 0);
         }
         c.end();
     }
 
-    private void run() {
+    /** Every second run leaves out some of the calls, so that what they would undo goes on for long. */
+    private void run(boolean all) {
+        boolean[] left = new boolean[GROUPS];
+        for (int which = 0; which < GROUPS && !all; which++) {
+            left[which] = r.nextInt(3) == 0;
+        }
+        int readsOneOf = all ? 100 : 10 + r.nextInt(400);
         while (calls < CALLS && c.wrong() == 0) {
-            if (r.nextInt(40) == 0) {
+            int which = r.nextInt(GROUPS);
+            if (r.nextInt(readsOneOf) == 0) {
                 readText();
+            } else if (!left[which]) {
+                callOne(which);
             } else {
-                callOne();
+                same("count 2", x.count(2), y.count(2));
             }
         }
+        c.due("calls of a run", calls, CALLS);
     }
 
+    /** An object is good for 512 calls: what is behind them is not asked for. */
     private void same(String call, long got, long due) {
-        calls++;
-        c.due("call " + calls + " " + call, got, due);
-        if (calls % 7 == 0) {
+        if (calls < CALLS) {
+            calls++;
+            c.due("call " + calls + " " + call, got, due);
+        }
+        if (calls % 7 == 0 && calls < CALLS) {
             calls++;
             c.due("call " + calls + " digest", x.digest(), y.digest());
         }
@@ -74,8 +88,7 @@ public final class ModelTest {
         return n(0, Math.max(0, y.count(0) - 1));
     }
 
-    private void callOne() {
-        int which = r.nextInt(32);
+    private void callOne(int which) {
         if (which < 8) {
             changes(which);
         } else if (which < 20) {
@@ -191,8 +204,9 @@ public final class ModelTest {
             text = text.substring(0, 150);
         }
         same("clear", x.clear(), y.clear());
-        for (int i = 0; i < text.length(); i++) {
-            c.due("type", x.type(text.charAt(i)), y.type(text.charAt(i)));
+        for (int i = 0; i < text.length() && calls < CALLS; i++) {
+            int sign = r.nextInt(200) == 0 ? FAR[r.nextInt(FAR.length)] : text.charAt(i);
+            same("type " + sign, x.type(sign), y.type(sign));
         }
         same("read of " + text, x.read(), y.read());
     }

@@ -9,17 +9,22 @@ public final class RoomTest {
         com.sun.management.ThreadMXBean threads =
                 (com.sun.management.ThreadMXBean) ManagementFactory.getThreadMXBean();
         long me = Thread.currentThread().getId();
-        WrongWay x = new WrongWay();
-        calls(x);
+        WrongWay[] objects = new WrongWay[100];
+        for (int i = 0; i < objects.length; i++) {
+            objects[i] = new WrongWay();
+        }
+        calls(new WrongWay());
         long before = threads.getThreadAllocatedBytes(me);
         long nothing = threads.getThreadAllocatedBytes(me) - before;
         before = threads.getThreadAllocatedBytes(me);
-        for (int i = 0; i < 1000; i++) {
-            calls(x);
+        for (WrongWay x : objects) {
+            for (int i = 0; i < 8; i++) {
+                calls(x);
+            }
         }
         long made = threads.getThreadAllocatedBytes(me) - before - nothing;
         C.about("the room");
-        C.holds("50,000 calls made " + made + " bytes", made < 50_000);
+        C.holds("40,000 calls made " + made + " bytes", made < 40_000);
         before = threads.getThreadAllocatedBytes(me);
         for (int i = 0; i < 1000; i++) {
             sum += new WrongWay().count(1);
@@ -30,7 +35,7 @@ public final class RoomTest {
         C.end();
     }
 
-    /** Some fifty calls, the dearest among them. */
+    /** Some sixty calls, the dearest among them. */
     private static void calls(WrongWay x) {
         x.house(11);
         for (int kind = 2; kind <= 5; kind++) {
